@@ -1136,9 +1136,10 @@ public final class LinkTree {
                 return;
             }
             World here = walk.stack[depth];
-            int bits = here.movers();
+            // behind the last STEP nobody moves, and most Worlds are met there: so no look at who may
+            int bits = depth < walk.longest && depth < MOST_ROW ? here.movers() : 0;
             int choices = Integer.bitCount(bits);
-            if (depth >= walk.longest || depth >= MOST_ROW || choices == 0) {
+            if (choices == 0) {
                 walk.tally(here, row, weight);
                 return;
             }
