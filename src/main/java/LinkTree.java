@@ -1310,11 +1310,15 @@ public final class LinkTree {
         private boolean parseKeys(Tape tape, int act) {
             tape.scan();
             for (int i = 0; i <= TEXT_KEYS; i++) {
-                if (!isNow(tape, Tape.NUMBER)) {
-                    return false;
+                if (tape.kind == Tape.WRONG) {
+                    return refuse(tape, 1);
                 }
+                // the 41st is refused whether it is a NUMBER or not, so this look comes ahead of that for a NUMBER
                 if (many < 0 || many >= TEXT_KEYS) {
                     return refuse(tape, 5);
+                }
+                if (!isNow(tape, Tape.NUMBER)) {
+                    return false;
                 }
                 acts[many] = act;
                 keys[many] = tape.value;

@@ -413,13 +413,13 @@ final class Model {
                 lines++;
                 continue;
             }
+            if (many && acts.size() == 40) {
+                return refuse(5, place);
+            }
             if (number == null || !many && had >= least) {
                 return refuse(2, place);
             }
             int v = Integer.parseInt(number);
-            if (many && acts.size() == 40) {
-                return refuse(5, place);
-            }
             if (line.equals("room") && (v < 2 || v > 4) || line.equals("find") && had == 0 && v > 2) {
                 return refuse(3, place);
             }

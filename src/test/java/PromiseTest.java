@@ -1,41 +1,6 @@
 /** Each promise of the document by runs worked out by hand: ordinary inputs, edges, wrong inputs. */
-public final class PromiseTest {
-    private static final int BAD = LinkTree.BAD, STATE = LinkTree.STATE, FULL = LinkTree.FULL, NONE = LinkTree.NONE;
-    private static final int FIND = 0, PUT = 1, TAKE = 2;
+public final class PromiseTest extends Sentences {
     private static final int[] FAR = {Integer.MIN_VALUE, Integer.MAX_VALUE};
-    private static int wrong = 0;
-    private static int asked = 0;
-
-    private static void due(String what, long got, long want) {
-        asked++;
-        if (got != want) {
-            wrong++;
-            System.out.println(what + " answered " + got + ", due is " + want);
-        }
-    }
-
-    /** Answers in one string, so that a whole state can be told in a line. */
-    private static void due(String what, String got, String want) {
-        asked++;
-        if (!got.equals(want)) {
-            wrong++;
-            System.out.println(what + " is " + got + ", due is " + want);
-        }
-    }
-
-    private static void feedAll(LinkTree x, String s) {
-        for (int i = 0; i < s.length(); i++) {
-            due("feed", x.feed(s.charAt(i)), i + 1);
-        }
-    }
-
-    private static LinkTree told(String s) {
-        LinkTree x = new LinkTree();
-        feedAll(x, s);
-        int lines = (int) s.chars().filter(c -> c == ';').count();
-        due("text of " + s, x.text(), lines);
-        return x;
-    }
 
     private static void refused(String s, int fault, int place) {
         LinkTree x = told("room 2;put 1 2;");
@@ -47,43 +12,6 @@ public final class PromiseTest {
         due("room behind " + s, x.rule(3), 2);
         due("keys behind " + s, x.rule(4), 2);
         due("images behind " + s, x.count(1), 1);
-    }
-
-    /** A whole NODE: LEVEL:KEYS(>CHILD)|HIGH>RIGHT, x: it is DEAD. */
-    private static String shape(LinkTree x, int n) {
-        StringBuilder b = new StringBuilder();
-        b.append(x.node(n, 0)).append(':');
-        for (int i = 0; i < x.node(n, 1); i++) {
-            b.append(i == 0 ? "" : " ").append(x.entry(n, i, 0));
-            if (x.entry(n, i, 1) != NONE) {
-                b.append('>').append(x.entry(n, i, 1));
-            }
-        }
-        b.append('|').append(x.node(n, 2)).append(' ').append(x.node(n, 3) == NONE ? "-" : x.node(n, 3));
-        return b.append(x.node(n, 5) == 1 ? " x" : "").toString();
-    }
-
-    /** The CODES of n STEPS of a CLIENT. */
-    private static String codes(LinkTree x, int c, int n) {
-        StringBuilder b = new StringBuilder();
-        for (int i = 0; i < n; i++) {
-            b.append(x.step(c));
-        }
-        return b.toString();
-    }
-
-    private static String whole(LinkTree x, int c) {
-        StringBuilder b = new StringBuilder();
-        for (int what = 0; what < 8; what++) {
-            b.append(what == 0 ? "" : " ").append(x.client(c, what));
-        }
-        return b.toString();
-    }
-
-    private static int act(LinkTree x, int c, int act, int key) {
-        x.begin(c, act, key);
-        x.go(c, 60);
-        return x.drop(c);
     }
 
     private static void newObject() {
@@ -199,9 +127,9 @@ public final class PromiseTest {
         due("5 forty", x.fault() + x.rule(4), 1);
         refused(forty + " 1;", 5, 84);
         refused(forty + ";take 1;", 5, 89);
-        refused(forty + " x;", 2, 84);
+        refused(forty + " x;", 5, 84);
         refused(forty + " 100;", 1, 84);
-        refused(forty + ";take;", 2, 88);
+        refused(forty + ";take;", 5, 88);
         due("5 mended", x.text() + x.fault(), 0);
     }
 
@@ -762,9 +690,6 @@ public final class PromiseTest {
         sheets();
         reads();
         refusedReadUndoesAll();
-        System.out.println("PromiseTest: " + asked + " answers, " + wrong + " not as due");
-        if (wrong != 0) {
-            System.exit(1);
-        }
+        close("PromiseTest");
     }
 }
