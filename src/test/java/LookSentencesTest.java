@@ -241,6 +241,25 @@ public final class LookSentencesTest extends Sentences {
         due("MID is there already", codes(y, 0, 3), "430");
     }
 
+    /** A LEAF with KEY 0 alone, past a dead LEAF whose ENTRY goes: no way leads there. */
+    private static void lostKey() {
+        says("6 a KEY that is there is not found by going down from THE ROOT with no other STEPS between.");
+        LinkTree x = three();
+        x.begin(0, PUT, 5);
+        due("a split with MID 10", codes(x, 0, 3), "245");
+        act(x, 1, TAKE, 5);
+        x.begin(1, TAKE, 10);
+        due("a death with MID 10", codes(x, 1, 3), "246");
+        act(x, 2, PUT, 10);
+        act(x, 2, PUT, 0);
+        act(x, 2, TAKE, 10);
+        due("leaves", shapes(x, 0, 3, 4, 2), "0:|10 3 x / 0:0|10 4 / 0:20|20 1 / 1:10>0 20>4|20 5");
+        due("found yet", x.check(), 0);
+        due("the entry goes", codes(x, 1, 3), "480");
+        due("lost", x.there(0) * 10 + x.check(), 16);
+        due("none finds it", act(x, 2, FIND, 0), 0);
+    }
+
     public static void main(String[] args) {
         rules();
         locks();
@@ -253,6 +272,7 @@ public final class LookSentencesTest extends Sentences {
         keysThere();
         leaves();
         checks();
+        lostKey();
         close("LookSentencesTest");
     }
 }

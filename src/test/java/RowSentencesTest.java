@@ -94,6 +94,17 @@ public final class RowSentencesTest extends Sentences {
         due("posts is not done", y.rows(2, 1) * 10 + y.rows(3, 1), 1);
     }
 
+    /** The way up goes by the PATH, which a ROW takes over from what stands. */
+    private static void rowsByPaths() {
+        says("AT becomes PATH of the LEVEL above, or, is that none, THE ROOT.");
+        LinkTree x = told("room 2;put 10 20 30 40 50;");
+        x.begin(1, PUT, 15);
+        x.go(1, 2);
+        due("splits on three levels and a new root in 7 steps", x.rows(7, 1) * 10 + x.rows(6, 1), 10);
+        due("first", x.first(1, 7, 1), 11111111);
+        due("by hand", codes(x, 1, 8), "45454570");
+    }
+
     private static void what2() {
         says("the most NODES in the end of any (2)");
         LinkTree x = told("room 2;put 10 20;");
@@ -145,6 +156,11 @@ public final class RowSentencesTest extends Sentences {
     private static void what4() {
         says("in how many a CLIENT that is DONE in the end had an ANSWER 0 or 1 of FIND that it has not SEEN (4). BAD.");
         due("none", flat().rows(7, 4), 0);
+        for (int c = 0; c < 3; c++) {
+            LinkTree any = lost();
+            any.begin(c, FIND, 7);
+            due("of client " + c, any.rows(3, 4) * 10 + any.rows(2, 4), 10);
+        }
         LinkTree x = told("put 5;find 1 5;");
         x.begin(0, TAKE, 5);
         due("each was true at some moment", x.rows(7, 4), 0);
@@ -243,6 +259,7 @@ public final class RowSentencesTest extends Sentences {
         byThemselves();
         howMany();
         what1();
+        rowsByPaths();
         what2();
         what3();
         what4();

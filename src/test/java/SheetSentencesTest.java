@@ -76,6 +76,30 @@ public final class SheetSentencesTest extends Sentences {
         due("the other is another", z.back(1) * 10 + z.rule(6), 241);
         act(z, 0, TAKE, 24);
         due("what comes behind is none of it", z.back(0) * 10 + z.there(24), 241);
+        LinkTree w = told("room 4;put 1 2;");
+        w.keep(0);
+        act(w, 0, PUT, 3);
+        act(w, 0, PUT, 4);
+        act(w, 0, PUT, 5);
+        w.back(0);
+        due("room 2 again", w.room(2), 4);
+        due("another split", act(w, 0, PUT, 9), 1);
+        due("nodes are made anew", tree(w), "0:1 2|2 1 / 0:9|100 - / 1:2>0 100>1|100 -");
+    }
+
+    private static void paths() {
+        says("an ANSWER, a PATH (of each LEVEL a NODE, or none).");
+        LinkTree x = told("room 2;put 10 20 30 40 50;");
+        x.begin(1, PUT, 15);
+        due("down the left", codes(x, 1, 2), "22");
+        x.keep(0);
+        x.go(1, 60);
+        x.begin(1, FIND, 50);
+        due("down the right", x.go(1, 60), 4);
+        x.back(0);
+        due("to the split", codes(x, 1, 2), "45");
+        due("at the path of the image", x.client(1, 3), 2);
+        due("on", codes(x, 1, 6), "454570");
     }
 
     private static void sheets() {
@@ -306,6 +330,7 @@ public final class SheetSentencesTest extends Sentences {
     public static void main(String[] args) {
         keeps();
         backs();
+        paths();
         sheets();
         lays();
         lowestBits();

@@ -271,6 +271,12 @@ public final class StepSentencesTest extends Sentences {
         due("no step", z.client(0, 6), 3);
         z.step(1);
         due("as soon as it does not hold it", codes(z, 0, 1), "4");
+        LinkTree w = told("room 2;put 10 20 30 40 50;take 30;");
+        w.begin(0, TAKE, 40);
+        w.begin(1, PUT, 15);
+        due("a death with MID as the HIGH above", codes(w, 0, 4), "2246");
+        due("another holds it above", codes(w, 1, 5), "22454");
+        due("locked", codes(w, 0, 1) + w.rule(7), "02");
     }
 
     private static void holdsAboveSplit() {

@@ -175,6 +175,20 @@ public final class TextSentencesTest extends Sentences {
         refused("put 1;end;", 2, 6);
     }
 
+    private static void names() {
+        says("(a NAME that begins no line; or the end: the length)");
+        for (String s : new String[] {"room 3;", "put 1;", "take 1;", "find 0 1;"}) {
+            int length = s.indexOf(' ');
+            for (int i = 0; i < length; i++) {
+                String other = s.charAt(i) == 'z' ? "a" : "z";
+                refused(s.substring(0, i) + other + s.substring(i + 1), 2, 0);
+                refused(s.substring(0, i) + s.substring(i + 1), 2, 0);
+                refused(s.substring(0, i) + other + s.substring(i), 2, 0);
+            }
+            refused(s.substring(0, length) + "z" + s.substring(length), 2, 0);
+        }
+    }
+
     private static void rooms() {
         says("3 a NUMBER out of its bounds.");
         for (int v = 2; v <= 4; v++) {
@@ -311,6 +325,11 @@ public final class TextSentencesTest extends Sentences {
         x.read(1, 0, 0, 1);
         x.text();
         due("torn is not of it", x.torn(), 1);
+        LinkTree y = told("room 4;put" + numbers(1, 40, 1) + ";");
+        feedAll(y, "room 2;put 1 2 3;");
+        due("smaller", y.text() + " " + tree(y), "2 0:1 2|2 1 / 0:3|100 - / 1:2>0 100>1|100 -");
+        feedAll(y, "put 5;");
+        due("smaller yet", y.text() + " " + tree(y), "1 0:5|100 -");
     }
 
     public static void main(String[] args) {
@@ -321,6 +340,7 @@ public final class TextSentencesTest extends Sentences {
         bytes();
         tokens();
         lines();
+        names();
         rooms();
         finds();
         keys();
