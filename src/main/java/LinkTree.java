@@ -1310,8 +1310,9 @@ public final class LinkTree {
         private boolean parseKeys(Tape tape, int act) {
             tape.scan();
             for (int i = 0; i <= TEXT_KEYS; i++) {
-                if (tape.kind == Tape.WRONG) {
-                    return refuse(tape, 1);
+                // nothing stands here that could be a KEY, so it is no 41st one either
+                if (tape.kind == Tape.WRONG || tape.kind == Tape.END) {
+                    return refuse(tape, tape.kind == Tape.WRONG ? 1 : 2);
                 }
                 // the 41st is refused whether it is a NUMBER or not, so this look comes ahead of that for a NUMBER
                 if (many < 0 || many >= TEXT_KEYS) {

@@ -413,7 +413,7 @@ final class Model {
                 lines++;
                 continue;
             }
-            if (many && acts.size() == 40) {
+            if (many && acts.size() == 40 && m.group(4) == null) {
                 return refuse(5, place);
             }
             if (number == null || !many && had >= least) {

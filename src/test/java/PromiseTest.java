@@ -130,6 +130,8 @@ public final class PromiseTest extends Sentences {
         refused(forty + " x;", 5, 84);
         refused(forty + " 100;", 1, 84);
         refused(forty + ";take;", 5, 88);
+        refused(forty, 2, 83);
+        refused(forty + ";take", 2, 88);
         due("5 mended", x.text() + x.fault(), 0);
     }
 

@@ -272,6 +272,7 @@ public final class TextSentencesTest extends Sentences {
         refused("put" + FORTY + " x;", 5, behind + 1);
         refused("put" + FORTY + ";take;", 5, behind + 5);
         refused("put" + FORTY + ";put take", 5, behind + 5);
+        endBehindForty(behind);
         refused("put" + FORTY + " 100;", 1, behind + 1);
         refused("put" + FORTY + ";take ?;", 1, behind + 6);
         due("a line without keys behind forty", told("put" + FORTY + ";room 2;find 1 1;").rule(0), 24);
@@ -280,6 +281,18 @@ public final class TextSentencesTest extends Sentences {
         due("refused with forty", y.text(), -10 - behind - 1);
         feedAll(y, "put 7;");
         due("keys of the next text", y.text() * 10 + y.rule(4), 11);
+    }
+
+    private static void endBehindForty(int behind) {
+        says("2 a TOKEN that can not stand there (a NAME that begins no line; or the end: the length).");
+        refused("put" + FORTY, 2, behind);
+        refused("take" + FORTY, 2, behind + 1);
+        refused("put" + FORTY + "   ", 2, behind + 3);
+        refused("put" + FORTY + ";put", 2, behind + 4);
+        refused("put" + FORTY + ";take  ", 2, behind + 7);
+        refused("put" + numbers(1, 20, 1) + ";take" + numbers(1, 20, 1), 2, 3 + 51 + 5 + 51);
+        refused("put" + numbers(1, 39, 1), 2, behind - 3);
+        refused("put" + FORTY + ";room 2;find 1", 2, behind + 14);
     }
 
     private static void firstMet() {
