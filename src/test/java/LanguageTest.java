@@ -5,8 +5,12 @@ import java.lang.reflect.Method;
 import java.lang.reflect.Modifier;
 import java.nio.file.Files;
 import java.nio.file.Path;
+import java.util.ArrayList;
 import java.util.Arrays;
+import java.util.List;
+import java.util.Map;
 import java.util.Set;
+import java.util.TreeMap;
 import java.util.TreeSet;
 import java.util.regex.Matcher;
 import java.util.regex.Pattern;
@@ -131,9 +135,51 @@ public final class LanguageTest {
         }
     }
 
+    /** The text of each method by its name; methods of one name in several classes are taken as one. */
+    private static Map<String, String> bodies(String code) {
+        Map<String, String> bodies = new TreeMap<>();
+        Matcher method = Pattern.compile("(?sm)^( +)(?:[a-z]+ )*[\\w\\[\\]]+ (\\w+)\\([^()]*\\) \\{\n(.*?)^\\1\\}").matcher(code);
+        while (method.find()) {
+            bodies.merge(method.group(2), method.group(3), String::concat);
+        }
+        return bodies;
+    }
+
+    /** How many calls stand open at once, that of the name itself counted, if none calls itself again. */
+    private static int depth(Map<String, String> bodies, String name, List<String> open) {
+        int most = 0;
+        Matcher call = Pattern.compile("(?<!Arrays\\.)\\b(\\w+)\\(").matcher(bodies.get(name));
+        List<String> opened = new ArrayList<>(open);
+        opened.add(name);
+        while (call.find()) {
+            String next = call.group(1);
+            // copyFrom of a World calls that of its Tree and Clients; explore is the one recursion, its depth is an argument
+            boolean isAgain = next.equals(name) && Set.of("copyFrom", "explore").contains(name);
+            if (bodies.containsKey(next) && !isAgain) {
+                demand(!opened.contains(next), "8 calls itself: " + opened + " " + next);
+                most = opened.contains(next) ? most : Math.max(most, depth(bodies, next, opened));
+            }
+        }
+        demand(!name.equals("copyFrom") || most == 0, "11 copyFrom calls more than another copyFrom");
+        return 1 + most + (name.equals("copyFrom") ? 1 : 0);
+    }
+
+    private static void callsAreFlat() throws IOException {
+        Map<String, String> bodies = bodies(Files.readString(SOURCE).replaceAll("//[^\n]*", ""));
+        for (String told : FACE) {
+            String name = told.replaceAll("^\\w+ |\\(.*", "");
+            demand(bodies.containsKey(name), "11 no text found of " + name);
+            if (bodies.containsKey(name)) {
+                int depth = depth(bodies, name, List.of());
+                demand(depth <= 8, "11 calls of " + name + " go " + depth + " deep");
+            }
+        }
+    }
+
     public static void main(String[] args) throws IOException {
         face();
         text();
+        callsAreFlat();
         System.out.println("LanguageTest: " + wrong + " rules broken");
         if (wrong != 0) {
             System.exit(1);
